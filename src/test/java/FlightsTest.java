@@ -16,6 +16,7 @@ public final class FlightsTest {
         windOfTheNewLevel();
         aboutAll();
         distances();
+        nothingOutlastsALand();
         check.end("FlightsTest");
     }
 
@@ -252,5 +253,22 @@ public final class FlightsTest {
         v.fly(0, 0, 0, 13, 10, 0);
         v.go(0, 0, 1, 12);
         check.due("corner to corner", v.distance(0), 3252);
+    }
+
+    private static void nothingOutlastsALand() {
+        GasVoyages v = new GasVoyages();
+        v.level(0, 14, 3);
+        v.fly(1, 1, 4, 200, 10, 9);
+        v.go(0, 1, 2, 1);
+        check.due("landed", v.about(0, 6), 1);
+        check.due("went", v.about(0, 9), 7);
+        v.land(12, 12);
+        v.fly(2, 3, 5, 13, 10, 1);
+        int[] begun = {2, 3, 1, 10, 1, 5, 0, 1, -10, 0};
+        for (int what = 0; what < begun.length; what++) {
+            check.due("begun anew: about " + what, v.about(0, what), begun[what]);
+        }
+        check.due("goes", v.go(0, 1, 1, 2), 2);
+        check.due("from where it began", v.distance(0), 0);
     }
 }
