@@ -209,11 +209,11 @@ public final class GasVoyages {
     // ---- logs
 
     public int entry(int flight, int i, int what) {
-        if (!isFlight(flight) || i < 0 || !within(what, 0, 2)) {
+        if (!isFlight(flight) || !within(what, 0, 2)) {
             return BAD;
         }
         Flight one = flights[flight];
-        if (i >= one.entries || one.lost[i]) {
+        if (!within(i, 0, one.entries - 1) || one.lost[i]) {
             return NONE;
         }
         int place = one.places[i];

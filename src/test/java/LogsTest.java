@@ -47,8 +47,15 @@ public final class LogsTest {
         check.due("not so many", v.entry(0, 4, 0), -1);
         check.due("not so many", v.entry(0, 60, 0), -1);
         check.due("not so many", v.entry(0, Integer.MAX_VALUE, 0), -1);
-        int[][] bad = {{1, 0, 0}, {-1, 0, 0}, {0, 0, -1}, {0, 0, 3}, {0, -1, 0}, {0, Integer.MIN_VALUE, 0},
-            {0, 99, 3}, {8, 0, 0}};
+        int[] belowFirst = {-1, -2, -60, Integer.MIN_VALUE};
+        for (int i : belowFirst) {
+            for (int what = 0; what < 3; what++) {
+                check.due("below the first, " + i + ", " + what, v.entry(0, i, what), -1);
+            }
+        }
+        // A FLIGHT that is not there and a what that is not told are BAD, whatever i is.
+        int[][] bad = {{1, 0, 0}, {-1, 0, 0}, {0, 0, -1}, {0, 0, 3}, {0, 99, 3}, {8, 0, 0}, {0, -1, 3}, {0, -1, -1},
+            {1, -1, 0}, {-1, -1, 0}, {0, Integer.MIN_VALUE, 3}};
         for (int[] b : bad) {
             check.due("bad entry", v.entry(b[0], b[1], b[2]), -2);
         }

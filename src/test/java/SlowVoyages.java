@@ -225,9 +225,9 @@ final class SlowVoyages {
     }
 
     int entry(int flight, int i, int what) {
-        if (!isFl(flight) || !in(what, 0, 2) || i < 0) return -2;
+        if (!isFl(flight) || !in(what, 0, 2)) return -2;
         Fl f = flights.get(flight);
-        return i < f.log.size() && !f.lost.get(i) ? f.log.get(i)[what] : -1;
+        return in(i, 0, f.log.size() - 1) && !f.lost.get(i) ? f.log.get(i)[what] : -1;
     }
 
     int lose(int flight, int from, int to) {
